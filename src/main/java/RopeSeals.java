@@ -21,6 +21,8 @@ public final class RopeSeals {
     private static final int NO_CART = -1;
     /** The answer of perform for a fault at the start of the text. */
     private static final int FIRST_FAULT = -100;
+    private static final int STATES_IN_HISTORY = 15;
+    private static final int LENGTH_OF_TEXT = 16;
 
     private final House house = new House();
     /** The state ahead of the change that is under way; made once, since room is scarce. */
@@ -243,10 +245,10 @@ public final class RopeSeals {
      * @return the number; OUT_OF_RANGE
      */
     public int total(int what) {
-        if (what == 15) {
+        if (what == STATES_IN_HISTORY) {
             return history.states();
         }
-        if (what == 16) {
+        if (what == LENGTH_OF_TEXT) {
             return text.length();
         }
         return house.tellOfAll(what);

@@ -1,5 +1,3 @@
-import java.util.function.LongSupplier;
-
 /** Counts the answers that are not as due; a test ends by calling finish(). */
 final class Due {
     private static int asked = 0;
@@ -14,17 +12,6 @@ final class Due {
         if (got != want) {
             wrong++;
             System.out.println(call + " answered " + got + ", due is " + want);
-        }
-    }
-
-    /** Checks an answer of a call that must not throw. */
-    static void dueSafely(String call, LongSupplier answer, long want) {
-        try {
-            due(call, answer.getAsLong(), want);
-        } catch (RuntimeException thrown) {
-            asked++;
-            wrong++;
-            System.out.println(call + " threw " + thrown);
         }
     }
 
