@@ -15,6 +15,11 @@ final class Due {
         }
     }
 
+    /** How many answers were looked at so far. */
+    static int asked() {
+        return asked;
+    }
+
     /** Checks that something holds. */
     static void holds(String what, boolean so) {
         due(what, so ? 1 : 0, 1);

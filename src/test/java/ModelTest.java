@@ -3,7 +3,10 @@
  * always the same: their numbers come from a plain formula, not from a clock.
  */
 public final class ModelTest {
-    private static final int CALLS = 512;
+    /** The document promises nothing about an object after so many calls. */
+    private static final int MOST_CALLS = 512;
+    /** A turn of a mixed run may type an order, a ";" ahead of it, and perform it. */
+    private static final int MOST_CALLS_OF_A_TURN = 12;
     private static final int[] EDGES = {
         -2147483648, -1000, -6, -5, -2, -1, 0, 1, 9, 10, 23, 24, 25, 32, 99, 100, 999, 1000,
         2147483647};
@@ -14,6 +17,7 @@ public final class ModelTest {
     private RopeSeals program = new RopeSeals();
     private Model model = new Model();
     private int run = 0;
+    private int calls = 0;
     private boolean lies = false;
     private boolean smallModulus = false;
 
@@ -22,10 +26,10 @@ public final class ModelTest {
 
     public static void main(String[] args) {
         ModelTest test = new ModelTest();
-        for (int run = 0; run < 3000; run++) {
+        for (int run = 0; run < 6000; run++) {
             test.mixedRun(run);
         }
-        for (int run = 3000; run < 8000; run++) {
+        for (int run = 6000; run < 12000; run++) {
             test.shortRunWithFullLook(run);
         }
         Due.finish();
@@ -45,17 +49,19 @@ public final class ModelTest {
         program = new RopeSeals();
         model = new Model();
         run = number;
+        calls = 0;
         lies = oneIn(2);
         smallModulus = oneIn(2);
     }
 
     private void same(String call, int got, int want) {
+        calls++;
         Due.due("run " + run + ": " + call, got, want);
     }
 
     private void mixedRun(int number) {
         start(number);
-        for (int calls = 0; calls < CALLS; calls++) {
+        while (calls + MOST_CALLS_OF_A_TURN <= MOST_CALLS) {
             if (oneIn(2)) {
                 change();
             } else if (oneIn(8)) {
@@ -77,7 +83,7 @@ public final class ModelTest {
         if (oneIn(3)) {
             historyCall();
         }
-        int carts = Math.min(model.total(5), 12);
+        int carts = Math.min(model.total(5), 16);
         for (int cart = 0; cart < carts; cart++) {
             for (int what = 0; what <= 12; what++) {
                 same("cart(" + cart + ", " + what + ")", program.cart(cart, what),
@@ -96,6 +102,7 @@ public final class ModelTest {
         same("fewestOpenings(0)", program.fewestOpenings(0), model.fewestOpenings(0));
         same("fewestOpenings(1)", program.fewestOpenings(1), model.fewestOpenings(1));
         same("bestOpening()", program.bestOpening(), model.bestOpening());
+        Due.holds("run " + run + " keeps to " + MOST_CALLS + " calls", calls <= MOST_CALLS);
         if (model.total(5) <= 8) {
             int fewest = model.fewestByTrying();
             same("fewestOpenings(0), by trying", program.fewestOpenings(0), fewest);
