@@ -185,10 +185,10 @@ public final class ChangesEdgesTest extends Edges {
             due("by the old value of setting " + setting, isWhole(house, 1), 1);
         }
         RopeSeals house = new RopeSeals();
-        house.come(5, 5, -1);
-        house.set(2, 10);
-        due("a seal that is M or more", house.cart(0, 3), 58);
-        due("the right one", house.cart(0, 4), 5);
+        house.come(2, 2, -1);
+        house.set(2, 50);
+        due("a seal that is M or more", house.cart(0, 3), 62);
+        due("the right one, 62 by 50", house.cart(0, 4), 12);
         due("its rope", isWhole(house, 0), 0);
     }
 

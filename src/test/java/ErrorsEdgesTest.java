@@ -196,13 +196,13 @@ public final class ErrorsEdgesTest extends Edges {
         holds("nothing changed", seen(house).equals(before));
     }
 
-    @Sentence(under = "What it is", says = "An object is used for at most 512 calls after it has been"
-            + " made")
+    @Sentence(under = "What it is", says = "An object is used for at most 512 calls after it has"
+            + " been made")
     static void whatItIsUsedForAtMost512Calls() {
         RopeSeals house = new RopeSeals();
         for (int calls = 0; calls < 511; calls++) {
-            house.set(3, calls % 2);
+            house.set(2, 10 + calls);
         }
-        due("the 512th call", house.total(3), 0);
+        due("the 512th call", house.total(2), 520);
     }
 }

@@ -49,8 +49,9 @@ public final class ForetellingEdgesTest extends Edges {
         due("ifOpened(1, 1), no lie, but the rope is not whole", house.ifOpened(1, 1), 3);
         house.set(3, 0);
         due("ifOpened(2, 1), FINE is 0", house.ifOpened(2, 1), 198);
-        house.open(0);
-        due("ifOpened(1, 1), fines that were paid are not told", house.ifOpened(1, 1), 3);
+        house.open(1);
+        due("fines of 2, which 1 made it pay", fines(house, 2), 5);
+        due("ifOpened(2, 1), without those", house.ifOpened(2, 1), 198);
     }
 
     @Sentence(under = "Promise 18: ifOpened", says = "2 for the fines of all others then")

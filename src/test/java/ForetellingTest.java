@@ -5,7 +5,6 @@ public final class ForetellingTest {
 
     public static void main(String[] args) {
         promise18();
-        promise18Errors();
         promise19();
         promise20();
         promise21();
@@ -63,22 +62,6 @@ public final class ForetellingTest {
         due("18: ifOpened(0, 0), cleared already", house.ifOpened(0, 0), 0);
         due("18: ifOpened(0, 1), cleared already", house.ifOpened(0, 1), 30);
         due("18: ifOpened(0, 2), fines of others, opened or not", house.ifOpened(0, 2), 10);
-    }
-
-    private static void promise18Errors() {
-        RopeSeals house = tree();
-        house.open(2);
-        due("18: ifOpened(2, 0), opened", house.ifOpened(2, 0), -4);
-        due("18: ifOpened(2, 2), opened", house.ifOpened(2, 2), -4);
-        due("18: ifOpened(2, 3), opened", house.ifOpened(2, 3), -2);
-        due("18: ifOpened(1, 3)", house.ifOpened(1, 3), -2);
-        due("18: ifOpened(1, -1)", house.ifOpened(1, -1), -2);
-        due("18: ifOpened(5, 3)", house.ifOpened(5, 3), -1);
-        due("18: ifOpened(5, 0)", house.ifOpened(5, 0), -1);
-        due("18: ifOpened(-1, 0)", house.ifOpened(-1, 0), -1);
-        due("18: ifOpened(greatest, greatest)",
-                house.ifOpened(Integer.MAX_VALUE, Integer.MAX_VALUE), -1);
-        due("18: no change", house.total(15), 4);
     }
 
     private static void dueFewest(String when, RopeSeals house, int want) {

@@ -94,20 +94,6 @@ public final class HistoryTest {
         due("11: not altered", house.cart(0, 0), 5);
     }
 
-    /** Everything that can be seen of the state; not the history, which is no part of it. */
-    private static String seen(RopeSeals house) {
-        StringBuilder all = new StringBuilder();
-        for (int what = 0; what <= 14; what++) {
-            all.append(house.total(what)).append(' ');
-        }
-        for (int cart = 0; cart < house.total(5); cart++) {
-            for (int what = 0; what <= 12; what++) {
-                all.append(house.cart(cart, what)).append(' ');
-            }
-        }
-        return all.toString();
-    }
-
     private static int change(RopeSeals house, int kind) {
         switch (kind) {
             case 0:
@@ -138,11 +124,11 @@ public final class HistoryTest {
             house.come(7, 7, 1);
             house.set(3, 33);
             house.alter(0, 9);
-            String before = seen(house);
+            String before = Edges.stateOf(house);
             Due.holds("11: change " + kind, change(house, kind) >= 0);
-            Due.holds("11: change " + kind + " is seen", !seen(house).equals(before));
+            Due.holds("11: change " + kind + " is seen", !Edges.stateOf(house).equals(before));
             due("11: undo() of change " + kind, house.undo(), 3);
-            Due.holds("11: change " + kind + " is undone", seen(house).equals(before));
+            Due.holds("11: change " + kind + " is undone", Edges.stateOf(house).equals(before));
         }
     }
 

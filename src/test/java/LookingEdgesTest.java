@@ -267,8 +267,8 @@ public final class LookingEdgesTest extends Edges {
 
     // ---- promise 15
 
-    @Sentence(under = "Promise 15: chain", says = "0 for itself, 1 for the one for which it vouches,"
-            + " and so on")
+    @Sentence(under = "Promise 15: chain", says = "0 for itself, 1 for the one for which it"
+            + " vouches, and so on")
     static void promise15Rank0ForItself() {
         RopeSeals house = new RopeSeals();
         house.come(1, 1, -1);
@@ -322,8 +322,8 @@ public final class LookingEdgesTest extends Edges {
 
     // ---- promise 16
 
-    @Sentence(under = "Promise 16: brokenIn", says = "Finds the first cart of a chain, from the cart"
-            + " on down, whose rope is not whole.")
+    @Sentence(under = "Promise 16: brokenIn", says = "Finds the first cart of a chain, from the"
+            + " cart on down, whose rope is not whole.")
     static void promise16TheFirstFromTheCartOnDown() {
         RopeSeals house = chainOf(24);
         house.alter(0, 50);
@@ -478,10 +478,12 @@ public final class LookingEdgesTest extends Edges {
     static void promise17CartsForWhichNoneVouches() {
         due("total(13), without carts", new RopeSeals().total(13), 0);
         due("total(13), one chain", chainOf(24).total(13), 1);
-        RopeSeals house = singles(23);
-        due("total(13), 23 alone", house.total(13), 23);
-        house.come(1, 1, 22);
-        due("total(13), one more that vouches", house.total(13), 23);
+        RopeSeals house = singles(22);
+        due("total(13), 22 alone", house.total(13), 22);
+        house.come(1, 1, 21);
+        due("total(13), one more that vouches", house.total(13), 22);
+        house.come(1, 1, 21);
+        due("total(13), another that vouches for the same one", house.total(13), 23);
     }
 
     @Sentence(under = "Promise 17: total", says = "14 for sacks that were found so far (loads of"

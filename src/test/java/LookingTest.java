@@ -5,8 +5,6 @@ public final class LookingTest {
 
     public static void main(String[] args) {
         promise14();
-        promise14Errors();
-        promise14Why();
         promise15();
         promise16();
         promise17();
@@ -53,49 +51,6 @@ public final class LookingTest {
         int sealOf4 = (31 * 3 + 17 * sealOf3 + 4) % 97;
         dueOfCart(house, 4, 3, 3, 3, sealOf4, sealOf4, 1, 1, 1, 0, 4, 0, 1, 0);
         dueOfCart(house, 5, 0, -5, -5, 5, 5, 1, 0, 0, 0, 1, 0, 1, 2);
-    }
-
-    private static void promise14Errors() {
-        RopeSeals house = tree();
-        due("14: cart(6, 0)", house.cart(6, 0), -1);
-        due("14: cart(-1, 0)", house.cart(-1, 0), -1);
-        due("14: cart(6, 13)", house.cart(6, 13), -1);
-        due("14: cart(0, 13)", house.cart(0, 13), -2);
-        due("14: cart(0, -1)", house.cart(0, -1), -2);
-        due("14: cart(least, 0)", house.cart(Integer.MIN_VALUE, 0), -1);
-        due("14: cart(greatest, 0)", house.cart(Integer.MAX_VALUE, 0), -1);
-        due("14: cart(0, least)", house.cart(0, Integer.MIN_VALUE), -2);
-        due("14: cart(0, greatest)", house.cart(0, Integer.MAX_VALUE), -2);
-        due("14: nothing changed", house.total(15), 4);
-    }
-
-    private static void promise14Why() {
-        RopeSeals house = new RopeSeals();
-        house.come(5, 5, -1);
-        due("14: why, nobody vouches", house.cart(0, 12), 2);
-        house.come(6, 6, 0);
-        house.come(7, 7, 0);
-        due("14: why, nobody cleared vouches", house.cart(0, 12), 3);
-        house.alter(2, 8);
-        house.alter(2, 7);
-        house.set(0, 30);
-        house.open(2);
-        due("14: why, one is cleared, but its rope is not whole", house.cart(0, 12), 4);
-        due("14: why, of the other", house.cart(1, 12), 2);
-        house.set(0, 31);
-        due("14: why, ropes that were mended late clear nobody", house.cart(0, 12), 4);
-        house.open(1);
-        due("14: why, cleared", house.cart(0, 12), 0);
-        house.alter(0, 50);
-        house.open(0);
-        due("14: why, found to lie, whoever vouches", house.cart(0, 12), 1);
-        house = new RopeSeals();
-        house.come(5, 4, -1);
-        house.open(0);
-        due("14: why, found to lie, and nobody vouches", house.cart(0, 12), 1);
-        house.come(1, 1, 0);
-        house.open(1);
-        due("14: why, found to lie, and cleared ones vouch", house.cart(0, 12), 1);
     }
 
     private static void promise15() {

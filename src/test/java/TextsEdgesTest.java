@@ -266,11 +266,11 @@ public final class TextsEdgesTest extends Edges {
     @Sentence(under = "Promise 8: type", says = "FULL if it has 60 characters")
     static void promise8FullIfItHas60Characters() {
         RopeSeals house = singles(11);
-        Due.typeAll(house, sealOrders(20));
-        due("type('1'), the 60th", house.type('1'), 60);
+        Due.typeAll(house, sealOrders(19) + ";s1");
+        due("type('0'), the 60th", house.type('0'), 60);
+        due("type('?'), the 61st", house.type('?'), FULL);
         due("type(';'), the 61st", house.type(';'), FULL);
-        due("type('s'), the 61st", house.type('s'), FULL);
-        due("perform(), a fault at the last one", house.perform(), -159);
+        due("perform(), of the 60 alone", house.perform(), 20);
         due("clearText()", house.clearText(), 60);
         due("type('o')", house.type('o'), 1);
         due("type('1')", house.type('1'), 2);
