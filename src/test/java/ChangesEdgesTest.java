@@ -406,8 +406,7 @@ public final class ChangesEdgesTest extends Edges {
     @Sentence(under = "Promise 3: alter", says = "UNKNOWN")
     static void promise3Unknown() {
         RopeSeals house = chainOf(2);
-        int[] unknown = {2, -1, 24, 32, LEAST, GREATEST};
-        for (int cart : unknown) {
+        for (int cart : NOT_OF_TWO) {
             due("alter(" + cart + ", 5)", house.alter(cart, 5), UNKNOWN);
         }
         due("alter(1, 5)", house.alter(1, 5), 1);
@@ -488,8 +487,7 @@ public final class ChangesEdgesTest extends Edges {
     static void promise4Unknown() {
         RopeSeals house = chainOf(2);
         house.set(0, 30);
-        int[] unknown = {2, -1, 24, 32, LEAST, GREATEST};
-        for (int cart : unknown) {
+        for (int cart : NOT_OF_TWO) {
             due("reseal(" + cart + ")", house.reseal(cart), UNKNOWN);
         }
     }

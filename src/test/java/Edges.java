@@ -16,6 +16,8 @@ abstract class Edges {
     static final int NONE = -5;
     static final int LEAST = Integer.MIN_VALUE;
     static final int GREATEST = Integer.MAX_VALUE;
+    /** No carts of a toll house with two; 32 is there as a shift by 32 is none. */
+    static final int[] NOT_OF_TWO = {2, -1, 24, 32, LEAST, GREATEST};
 
     private static String test = "";
 

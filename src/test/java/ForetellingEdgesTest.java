@@ -98,8 +98,7 @@ public final class ForetellingEdgesTest extends Edges {
     @Sentence(under = "Promise 18: ifOpened", says = "UNKNOWN")
     static void promise18Unknown() {
         RopeSeals house = chainOf(2);
-        int[] unknown = {2, -1, 24, 32, LEAST, GREATEST};
-        for (int cart : unknown) {
+        for (int cart : NOT_OF_TWO) {
             for (int what = 0; what <= 2; what++) {
                 due("ifOpened(" + cart + ", " + what + ")", house.ifOpened(cart, what), UNKNOWN);
             }
@@ -327,8 +326,7 @@ public final class ForetellingEdgesTest extends Edges {
     @Sentence(under = "Promise 21: sameSeal", says = "UNKNOWN")
     static void promise21Unknown() {
         RopeSeals house = chainOf(2);
-        int[] unknown = {2, -1, 24, 32, LEAST, GREATEST};
-        for (int cart : unknown) {
+        for (int cart : NOT_OF_TWO) {
             due("sameSeal(" + cart + ")", house.sameSeal(cart), UNKNOWN);
         }
     }

@@ -169,8 +169,7 @@ public final class LookingEdgesTest extends Edges {
     @Sentence(under = "Promise 14: cart", says = "UNKNOWN")
     static void promise14Unknown() {
         RopeSeals house = chainOf(2);
-        int[] unknown = {2, -1, 24, 32, LEAST, GREATEST};
-        for (int cart : unknown) {
+        for (int cart : NOT_OF_TWO) {
             for (int what = 0; what <= 12; what++) {
                 due("cart(" + cart + ", " + what + ")", house.cart(cart, what), UNKNOWN);
             }
@@ -285,8 +284,7 @@ public final class LookingEdgesTest extends Edges {
     @Sentence(under = "Promise 15: chain", says = "UNKNOWN")
     static void promise15Unknown() {
         RopeSeals house = chainOf(2);
-        int[] unknown = {2, -1, 24, 32, LEAST, GREATEST};
-        for (int cart : unknown) {
+        for (int cart : NOT_OF_TWO) {
             due("chain(" + cart + ", 0)", house.chain(cart, 0), UNKNOWN);
         }
     }
@@ -338,8 +336,7 @@ public final class LookingEdgesTest extends Edges {
     @Sentence(under = "Promise 16: brokenIn", says = "UNKNOWN")
     static void promise16Unknown() {
         RopeSeals house = chainOf(2);
-        int[] unknown = {2, -1, 24, 32, LEAST, GREATEST};
-        for (int cart : unknown) {
+        for (int cart : NOT_OF_TWO) {
             due("brokenIn(" + cart + ")", house.brokenIn(cart), UNKNOWN);
         }
     }

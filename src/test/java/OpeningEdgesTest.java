@@ -323,8 +323,7 @@ public final class OpeningEdgesTest extends Edges {
     @Sentence(under = "Promise 5: open", says = "UNKNOWN")
     static void promise5Unknown() {
         RopeSeals house = chainOf(2);
-        int[] unknown = {2, -1, 24, 32, LEAST, GREATEST};
-        for (int cart : unknown) {
+        for (int cart : NOT_OF_TWO) {
             due("open(" + cart + ")", house.open(cart), UNKNOWN);
         }
         due("opened", house.total(6), 0);
