@@ -145,6 +145,47 @@ public final class ErrorsEdgesTest extends Edges {
         due("perform, an order that returns NONE ahead of one", Due.perform(house, "s0;o2"), 2);
     }
 
+    @Sentence(under = "ERRORS", says = "If several errors apply, the one that stands first in the"
+            + " @return line is returned. NONE is not an error; it is returned only if no error"
+            + " applies.")
+    static void errorsACallThatNamesAnUnknownCartAnswersUnknownWhateverElseIsSo() {
+        RopeSeals opened = chainOf(2);
+        opened.open(0);
+        opened.open(1);
+        RopeSeals altered = chainOf(2);
+        breakRope(altered, 0);
+        breakRope(altered, 1);
+        for (RopeSeals house : new RopeSeals[] {chainOf(2), opened, altered}) {
+            for (int cart : NOT_OF_TWO) {
+                askAboutUnknown(house, cart);
+            }
+        }
+        for (int cart : new int[] {24, -1, 32, LEAST, GREATEST}) {
+            askAboutUnknown(busyHouse(), cart);
+        }
+        for (int cart : new int[] {0, 1, -1, LEAST, GREATEST}) {
+            askAboutUnknown(new RopeSeals(), cart);
+        }
+    }
+
+    /** Asks with other arguments that are in their range, and with some that are not. */
+    private static void askAboutUnknown(RopeSeals house, int cart) {
+        due("reseal(" + cart + ")", house.reseal(cart), UNKNOWN);
+        due("open(" + cart + ")", house.open(cart), UNKNOWN);
+        due("brokenIn(" + cart + ")", house.brokenIn(cart), UNKNOWN);
+        due("sameSeal(" + cart + ")", house.sameSeal(cart), UNKNOWN);
+        for (int other : new int[] {0, 1, 2, 12, 99, 13, 100, -1, LEAST, GREATEST}) {
+            due("alter(" + cart + ", " + other + ")", house.alter(cart, other), UNKNOWN);
+            due("cart(" + cart + ", " + other + ")", house.cart(cart, other), UNKNOWN);
+            due("chain(" + cart + ", " + other + ")", house.chain(cart, other), UNKNOWN);
+            due("ifOpened(" + cart + ", " + other + ")", house.ifOpened(cart, other), UNKNOWN);
+            if (cart != -1) {
+                due("come(" + other + ", 0, " + cart + ")", house.come(other, 0, cart), UNKNOWN);
+                due("come(0, " + other + ", " + cart + ")", house.come(0, other, cart), UNKNOWN);
+            }
+        }
+    }
+
     @Sentence(under = "ERRORS", says = "`UNKNOWN = -1`: There is no such cart or setting.")
     static void errorsUnknownIsMinus1() {
         due("UNKNOWN", RopeSeals.UNKNOWN, -1);
